@@ -265,10 +265,12 @@ public final class FarScreen {
         private final int[] unlikeSince = new int[TILES];
         /** Bit k is for the k-th step before the one that comes next. */
         private final int[] changes = new int[TILES];
+        // Rows to work on, kept as the room for objects is small: what is in them lasts for one call.
         private final int[] worths = new int[TILES];
         private final int[] order = new int[TILES];
         private final int[] before = new int[TILES];
-        /** One place more than can wait: the move that is drawn just now has its own, told or not. */
+
+        /** One place more than can wait, for the move that is drawn but not told. */
         private final BlockMove[] moves = new BlockMove[MOST_MOVES + 1];
         private int waitingMoves = 0;
         private final KnownRow knownRow = new KnownRow();

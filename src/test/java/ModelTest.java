@@ -1,4 +1,3 @@
-import java.util.ArrayDeque;
 import java.util.ArrayList;
 import java.util.Arrays;
 import java.util.HashSet;
@@ -149,6 +148,10 @@ public final class ModelTest {
             return cost;
         }
 
+        int anew() {
+            return Arrays.stream(near).map(picture -> picture < 64 ? 2 : 6).sum();
+        }
+
         int stepsToGo(int budget) {
             Model copy = copy();
             for (int steps = 0; steps <= 100; steps++) {
@@ -161,7 +164,7 @@ public final class ModelTest {
 
     private static long seed = 1;
     private static int wrong = 0;
-    private static final ArrayDeque<String> latest = new ArrayDeque<>();
+    private static final List<String> done = new ArrayList<>();
 
     /** The same numbers in each run of this test. */
     private static int below(int bound) {
@@ -170,84 +173,91 @@ public final class ModelTest {
     }
 
     private static void due(String call, long got, long want) {
-        latest.add(call);
-        if (latest.size() > 12) latest.remove();
         if (got != want && wrong++ < 10) {
-            System.out.println(call + " answered " + got + ", due is " + want + ", behind " + latest);
+            System.out.println(call + " answered " + got + ", due is " + want + ", behind " + done);
         }
     }
 
     public static void main(String[] args) {
         int[] seen = new int[4];
-        for (int run = 0; run < 400 && wrong == 0; run++) {
+        for (int run = 0; run < 3000 && wrong == 0; run++) {
             Model model = oneRun(run);
             for (int what = 0; what < 4; what++) seen[what] += model.sent[what];
         }
         for (int what = 0; what < 4; what++) {
-            if (seen[what] < 1000) due("runs send enough of " + what, seen[what], 1000);
+            if (wrong == 0 && seen[what] < 1000) due("what the runs send of " + what, seen[what], 1000);
         }
         System.out.println(wrong == 0 ? "all runs are as due" : wrong + " answers are not as due");
         if (wrong != 0) System.exit(1);
     }
 
+    /** At most 512 calls: a question behind each act, in some runs all questions behind all acts instead. */
     private static Model oneRun(int run) {
-        latest.clear();
+        done.clear();
         FarScreen screen = new FarScreen();
         Model model = new Model();
         int pictures = run % 3 == 0 ? 256 : run % 3 == 1 ? 90 : 12;
         int most = run % 4 == 0 ? 301 : run % 4 == 1 ? 40 : run % 4 == 2 ? 9 : 4;
-        for (int k = 0; k < 170; k++) {
-            oneCall(screen, model, pictures, most);
-            compare(screen, model);
+        boolean atTheEnd = run % 5 == 0;
+        int acts = atTheEnd ? 280 : 250;
+        for (int k = 0; k < acts; k++) {
+            act(screen, model, pictures, most);
+            if (!atTheEnd) ask(screen, model, below(12), below(48), below(most));
         }
+        for (int k = 0; atTheEnd && k < 192; k++) ask(screen, model, k / 48, k % 48, 0);
+        for (int what = 4; atTheEnd && what < 12; what++) ask(screen, model, what, 0, most - 1);
         return model;
     }
 
-    private static void oneCall(FarScreen screen, Model model, int pictures, int most) {
+    private static void act(FarScreen screen, Model model, int pictures, int most) {
         int what = below(10);
         int width = below(3) == 0 ? 1 + below(8) : 1 + below(2);
         int height = below(3) == 0 ? 1 + below(6) : 1 + below(2);
         int x = below(9 - width);
         int y = below(7 - height);
+        String block = "(" + x + ", " + y + ", " + width + ", " + height + ", ";
         if (what < 4) {
             int picture = below(pictures);
-            due("fill(" + x + ", " + y + ", " + width + ", " + height + ", " + picture + ")",
-                screen.fill(x, y, width, height, picture), model.fill(x, y, width, height, picture));
+            done.add("fill" + block + picture + ")");
+            due("the last", screen.fill(x, y, width, height, picture), model.fill(x, y, width, height, picture));
         } else if (what < 6) {
             int toX = below(9 - width);
             int toY = below(7 - height);
             if (x == toX && y == toY) return;
-            due("move(" + x + ", " + y + ", " + width + ", " + height + ", " + toX + ", " + toY + ")",
-                screen.move(x, y, width, height, toX, toY), model.move(x, y, width, height, toX, toY));
+            done.add("move" + block + toX + ", " + toY + ")");
+            due("the last", screen.move(x, y, width, height, toX, toY), model.move(x, y, width, height, toX, toY));
         } else if (what < 7) {
-            due("look(" + x + ", " + y + ")", screen.look(x, y), model.look);
+            done.add("look(" + x + ", " + y + ")");
+            due("the last", screen.look(x, y), model.look);
             model.look = 8 * y + x;
         } else {
             int budget = below(most);
-            due("step(" + budget + ")", screen.step(budget), model.step(budget));
+            done.add("step(" + budget + ")");
+            due("the last", screen.step(budget), model.step(budget));
         }
-        int budget = below(most);
-        if (what % 3 == 0) due("stepsToGo(" + budget + ")", screen.stepsToGo(budget), model.stepsToGo(budget));
     }
 
-    private static void compare(FarScreen screen, Model model) {
-        for (int k = 0; k < 48; k++) {
-            due("near of " + k, screen.near(k % 8, k / 8), model.near[k]);
-            due("far of " + k, screen.far(k % 8, k / 8), model.far[k]);
-            due("kind of " + k, screen.kind(k % 8, k / 8), model.kind(k));
-            due("since of " + k, screen.since(k % 8, k / 8), model.since[k] == null ? -1 : model.since[k]);
-            latest.clear();
+    private static void ask(FarScreen screen, Model model, int what, int tile, int budget) {
+        int x = tile % 8;
+        int y = tile / 8;
+        switch (what) {
+            case 0 -> due("near of " + tile, screen.near(x, y), model.near[tile]);
+            case 1 -> due("far of " + tile, screen.far(x, y), model.far[tile]);
+            case 2 -> due("kind of " + tile, screen.kind(x, y), model.kind(tile));
+            case 3 -> due("since of " + tile, screen.since(x, y), model.since[tile] == null ? -1 : model.since[tile]);
+            case 4 -> due("time", screen.time(), model.time());
+            case 5 -> due("unlike", screen.unlike(), model.unlike());
+            case 6 -> due("rough", screen.rough(), Arrays.stream(model.far).filter(f -> f >= 1000).count());
+            case 7 -> due("waiting", screen.waiting(), model.moves.size());
+            case 8 -> askKnown(screen, model, tile % 8);
+            case 9 -> due("sent(" + tile % 4 + ")", screen.sent(tile % 4), model.sent[tile % 4]);
+            case 10 -> due("used and anew", 1000 * screen.used() + screen.anew(), 1000 * model.used + model.anew());
+            default -> due("stepsToGo(" + budget + ")", screen.stepsToGo(budget), model.stepsToGo(budget));
         }
-        due("time", screen.time(), model.time());
-        due("unlike", screen.unlike(), model.unlike());
-        due("rough", screen.rough(), Arrays.stream(model.far).filter(f -> f >= 1000).count());
-        due("waiting", screen.waiting(), model.moves.size());
-        due("knownPictures", screen.knownPictures(), model.known.size());
-        for (int place = 0; place < model.known.size(); place++) {
-            due("known(" + place + ")", screen.known(place), model.known.get(place));
-        }
-        for (int what = 0; what < 4; what++) due("sent(" + what + ")", screen.sent(what), model.sent[what]);
-        due("used", screen.used(), model.used);
-        due("anew", screen.anew(), Arrays.stream(model.near).map(p -> p < 64 ? 2 : 6).sum());
+    }
+
+    private static void askKnown(FarScreen screen, Model model, int place) {
+        if (place < model.known.size()) due("known(" + place + ")", screen.known(place), model.known.get(place));
+        else due("knownPictures", screen.knownPictures(), model.known.size());
     }
 }
