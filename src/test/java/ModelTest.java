@@ -202,10 +202,10 @@ public final class ModelTest {
         int acts = atTheEnd ? 280 : 250;
         for (int k = 0; k < acts; k++) {
             act(screen, model, pictures, most);
-            if (!atTheEnd) ask(screen, model, below(12), below(48), below(most));
+            if (!atTheEnd) ask(screen, model, below(13), below(48), below(most));
         }
         for (int k = 0; atTheEnd && k < 192; k++) ask(screen, model, k / 48, k % 48, 0);
-        for (int what = 4; atTheEnd && what < 12; what++) ask(screen, model, what, 0, most - 1);
+        for (int what = 4; atTheEnd && what < 13; what++) ask(screen, model, what, 0, most - 1);
         return model;
     }
 
@@ -251,7 +251,8 @@ public final class ModelTest {
             case 7 -> due("waiting", screen.waiting(), model.moves.size());
             case 8 -> askKnown(screen, model, tile % 8);
             case 9 -> due("sent(" + tile % 4 + ")", screen.sent(tile % 4), model.sent[tile % 4]);
-            case 10 -> due("used and anew", 1000 * screen.used() + screen.anew(), 1000 * model.used + model.anew());
+            case 10 -> due("used", screen.used(), model.used);
+            case 11 -> due("anew", screen.anew(), model.anew());
             default -> due("stepsToGo(" + budget + ")", screen.stepsToGo(budget), model.stepsToGo(budget));
         }
     }
