@@ -159,6 +159,7 @@ public final class DocumentTest {
         makeFilm(often, 20, 103);
         due("step with a film", often.step(300), 2);
         due("far of it", far(often, 20), 1006);
+        due("since of it", since(often, 20), 0);
         heldByABudget();
         sentence = "the oldest and those that are looked at go first";
         FarScreen order = new FarScreen();
@@ -175,6 +176,8 @@ public final class DocumentTest {
         sentence = "An object is used for at most 512 calls after it has been made";
         mostThatIsSent();
         oldestThatThereIs();
+        bothOld();
+        mostSteps();
     }
 
     /** Nothing but fill and move changes the near screen. */
@@ -288,6 +291,33 @@ public final class DocumentTest {
         }
     }
 
+    /** One that is a step older goes first, however old both are; of the same age the lowest number. */
+    private static void bothOld() {
+        for (int by : new int[] {1, 98, 99, 100, 101, 126, 127, 128, 254, 255, 256, 257, 400, 495}) {
+            for (int older = 0; older <= 1; older++) {
+                FarScreen screen = new FarScreen();
+                draw(screen, 40, 1);
+                pass(screen, older);
+                draw(screen, 33, 2);
+                pass(screen, by);
+                due("step for one of two", screen.step(2), 2);
+                due("unlike, both old, " + by, screen.unlike(), older == 1 ? 1L << 33 : 1L << 40);
+            }
+        }
+    }
+
+    private static void mostSteps() {
+        FarScreen screen = new FarScreen();
+        pass(screen, 508);
+        draw(screen, 17, 9);
+        due("since behind 508 steps", since(screen, 17), 508);
+        due("stepsToGo then", screen.stepsToGo(2), 1);
+        due("time then, the 512th call", screen.time(), 508);
+        FarScreen steps = new FarScreen();
+        pass(steps, 511);
+        due("time behind 511 steps", steps.time(), 511);
+    }
+
     // ---- Terms
 
     private static void terms() {
@@ -333,9 +363,10 @@ public final class DocumentTest {
             on -> on.fill(8, 5, 1, 1, 9), on -> on.fill(0, 0, 8, 6, 256), on -> on.move(0, 0, 8, 5, 0, 2),
             on -> on.move(0, 0, 8, 5, 0, 0), on -> on.look(8, 5), on -> on.step(301), on -> on.near(0, 6),
             on -> on.far(-1, 0), on -> on.kind(8, 0), on -> on.since(0, -1), on -> on.known(8),
-            on -> on.sent(4), on -> on.stepsToGo(-1)};
+            on -> on.sent(4), on -> on.stepsToGo(-1), on -> on.look(-1, 0), on -> on.step(-1)};
         String[] want = {
-            INDEX, ARGUMENT, INDEX, ARGUMENT, INDEX, ARGUMENT, INDEX, INDEX, INDEX, INDEX, INDEX, ARGUMENT, ARGUMENT};
+            INDEX, ARGUMENT, INDEX, ARGUMENT, INDEX, ARGUMENT, INDEX, INDEX, INDEX, INDEX, INDEX, ARGUMENT, ARGUMENT,
+            INDEX, ARGUMENT};
         for (int number = 0; number < 30; number++) {
             FarScreen refusing = new FarScreen();
             FarScreen other = new FarScreen();
@@ -391,6 +422,13 @@ public final class DocumentTest {
         screen.step(0);
         screen.step(300);
         due("far by a step is no change", kind(screen, 0), FarScreen.LETTER);
+        moveTile(screen, 1, 2);
+        moveTile(screen, 0, 1);
+        moveTile(screen, 2, 1);
+        due("kind when no move came to it", kind(screen, 0), FarScreen.LETTER);
+        moveTile(screen, 1, 0);
+        due("kind when a move came to it", kind(screen, 0), FarScreen.FILM);
+        due("kind when moves came to it in one step", kind(screen, 1), FarScreen.LETTER);
         draw(screen, 0, 4);
         due("kind with another one", kind(screen, 0), FarScreen.FILM);
         draw(screen, 0, 3);
@@ -485,6 +523,15 @@ public final class DocumentTest {
         due("far of the first", far(order, 8), 100);
         due("far of the second, that was told behind the first", far(order, 16), 100);
         due("far of the third, that was not told", far(order, 24), 124);
+        due("step for the third", order.step(2), 2);
+        due("far of the third", far(order, 24), 100);
+        due("unlike when all are told", order.unlike(), 0);
+        FarScreen one = unlikePictures();
+        draw(one, 0, 147);
+        moveTile(one, 1, 2);
+        moveTile(one, 1, 2);
+        due("step with 3 for two moves, a picture is known", one.step(3), 2);
+        due("unlike behind it", one.unlike(), 1);
         sentence = "told ones do to the far screen what they did to the near one, all tiles at once";
         for (int k = 0; k < 2; k++) {
             FarScreen once = unlikePictures();
@@ -636,6 +683,14 @@ public final class DocumentTest {
         told.step(2);
         due("since by the telling", since(told, 1), 6);
         due("time", told.time(), 7);
+        FarScreen again = unlikePictures();
+        moveTile(again, 0, 1);
+        moveTile(again, 2, 1);
+        draw(again, 1, 100);
+        pass(again, 3);
+        due("since by the drawing calls", since(again, 1), 1);
+        due("step that makes it alike, and unlike again", again.step(4), 4);
+        due("since by the second telling", since(again, 1), 4);
     }
 
     private static void constants() {
@@ -682,6 +737,7 @@ public final class DocumentTest {
         due("fill", screen.fill(2, 1, 3, 2, 40), 6);
         due("fill beside it", screen.fill(4, 1, 2, 1, 41), 7);
         due("unlike", screen.unlike(), 0x3CL << 8 | 0x1CL << 16);
+        due("fill of all", new FarScreen().fill(0, 0, 8, 6, 1), 48);
         due("fill that makes four alike", screen.fill(2, 1, 2, 2, 0), 3);
         due("near of the corner", screen.near(4, 2), 40);
         sentence = "Moves a block of tiles. Returns how many moves wait then";
@@ -837,7 +893,9 @@ public final class DocumentTest {
         for (int number = 0; number < 600; number++) {
             FarScreen screen = new FarScreen();
             mix(screen, number, 120);
+            int time = screen.time();
             for (int budget : budgets) screen.stepsToGo(budget);
+            due("time behind asking", screen.time(), time);
             int budget = budgets[number % budgets.length];
             int answer = screen.stepsToGo(budget);
             int steps = 0;
@@ -853,6 +911,30 @@ public final class DocumentTest {
         draw(screen, 7, 64);
         due("with 6", screen.stepsToGo(6), 1);
         due("with 5", screen.stepsToGo(5), FarScreen.NONE);
+        FarScreen films = new FarScreen();
+        for (int k = 0; k < 8; k++) {
+            films.fill(0, 0, 8, 6, 200 + k);
+            if (k < 7) films.step(0);
+        }
+        for (int tile = 0; tile < 48; tile++) draw(films, tile, 1 + tile);
+        due("with 300, all of them films", films.stepsToGo(300), 6);
+        for (int k = 0; k < 4; k++) moveTile(films, 0, 1);
+        draw(films, 1, 50);
+        due("with 2, all of them films and moves", films.stepsToGo(2), 53);
+        due("with 1, all of them films", films.stepsToGo(1), FarScreen.NONE);
+        films.step(8);
+        due("with 2, all of them films but for moves", films.stepsToGo(2), 52);
+        sentence = "if nothing else was done";
+        for (int number = 0; number < 60; number++) {
+            FarScreen asked = new FarScreen();
+            FarScreen other = new FarScreen();
+            mix(asked, number, 100);
+            mix(other, number, 100);
+            for (int budget = 0; budget <= 300; budget += 13) asked.stepsToGo(budget);
+            due("the place that is looked at behind asking", look(asked, 8), look(other, 8));
+            due("step behind asking", asked.step(7), other.step(7));
+            holds("all is as in one that was not asked", shown(asked).equals(shown(other)));
+        }
         sentence = "Throws IllegalArgumentException if budget is out of its range";
         throwing("stepsToGo(-1)", screen, ARGUMENT, on -> on.stepsToGo(-1));
         throwing("stepsToGo(301)", screen, ARGUMENT, on -> on.stepsToGo(301));
